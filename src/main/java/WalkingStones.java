@@ -229,7 +229,8 @@ public final class WalkingStones {
         long above = 0;
         long below = 0;
         for (int each = 0; each < hows.size; each++) {
-            long product = productOfFits(each, tracks);
+            walk.go(each, 0, nights.size - 1);
+            long product = productOfFits(tracks);
             below += product;
             if (each == how) {
                 above = product;
@@ -541,8 +542,7 @@ public final class WalkingStones {
     }
 
     /** At most 9 to the 16th, so that eight of them together stay far within a long. */
-    private long productOfFits(int how, int bits) {
-        walk.go(how, 0, nights.size - 1);
+    private long productOfFits(int bits) {
         long product = 1;
         for (int track = 0; track < ODDS_TRACKS; track++) {
             if ((bits >> track & 1) == 1) {
@@ -630,12 +630,12 @@ public final class WalkingStones {
         /** How many squares ahead of a stone are on the lake and free, if the stones lie as told. */
         int roomAhead(int[] at, int stone, int way) {
             boolean more = way < 2;
-            int along = along(at[stone], way);
-            int across = along(at[stone], way + 1);
+            int along = coordinate(at[stone], way);
+            int across = coordinate(at[stone], way + 1);
             int room = more ? SIDE - 1 - along : along;
             for (int other = 0; other < size; other++) {
-                if (along(at[other], way + 1) == across) {
-                    int ahead = along(at[other], way) - along;
+                if (coordinate(at[other], way + 1) == across) {
+                    int ahead = coordinate(at[other], way) - along;
                     if (!more) {
                         ahead = -ahead;
                     }
@@ -649,7 +649,7 @@ public final class WalkingStones {
         }
 
         /** The x of a place for an even way, its y for an odd one. */
-        private static int along(int place, int way) {
+        private static int coordinate(int place, int way) {
             return (way & 1) == 0 ? place % SIDE : place / SIDE;
         }
     }
@@ -837,13 +837,13 @@ public final class WalkingStones {
         private static int joined(int step, int left, int right) {
             switch (step) {
                 case T_OR:
-                    return bit(left != 0 || right != 0);
+                    return (left != 0 || right != 0) ? 1 : 0;
                 case T_AND:
-                    return bit(left != 0 && right != 0);
+                    return (left != 0 && right != 0) ? 1 : 0;
                 case T_LESS:
-                    return bit(left < right);
+                    return left < right ? 1 : 0;
                 case T_LIKE:
-                    return bit(left == right);
+                    return left == right ? 1 : 0;
                 case T_PLUS:
                     return left + right;
                 case T_MINUS:
@@ -1041,45 +1041,40 @@ public final class WalkingStones {
         }
 
         private int wordOf(int place, int end) {
-            switch (tape[place]) {
-                case 'a':
-                    return spells("add", place, end) ? T_ADD : spells("and", place, end) ? T_AND : T_WRONG;
-                case 'c':
-                    return spells("call", place, end) ? T_CALL : T_WRONG;
-                case 'i':
-                    return spells("ice", place, end) ? T_ICE : T_WRONG;
-                case 'n':
-                    return wordOfN(place, end);
-                case 'o':
-                    return spells("or", place, end) ? T_OR : T_WRONG;
-                case 'w':
-                    return wordOfW(place, end);
-                default:
-                    return T_WRONG;
+            if (spells("add", place, end)) {
+                return T_ADD;
             }
-        }
-
-        private int wordOfN(int place, int end) {
+            if (spells("call", place, end)) {
+                return T_CALL;
+            }
+            if (spells("worth", place, end)) {
+                return T_WORTH;
+            }
+            if (spells("or", place, end)) {
+                return T_OR;
+            }
+            if (spells("and", place, end)) {
+                return T_AND;
+            }
             if (spells("not", place, end)) {
                 return T_NOT;
             }
-            if (spells("number", place, end)) {
-                return T_NUMBER;
-            }
-            return spells("night", place, end) ? T_NIGHT : T_WRONG;
-        }
-
-        private int wordOfW(int place, int end) {
             if (spells("weight", place, end)) {
                 return T_WEIGHT;
             }
             if (spells("wet", place, end)) {
                 return T_WET;
             }
+            if (spells("ice", place, end)) {
+                return T_ICE;
+            }
             if (spells("wind", place, end)) {
                 return T_WIND;
             }
-            return spells("worth", place, end) ? T_WORTH : T_WRONG;
+            if (spells("number", place, end)) {
+                return T_NUMBER;
+            }
+            return spells("night", place, end) ? T_NIGHT : T_WRONG;
         }
 
         private boolean spells(String word, int place, int end) {

@@ -51,6 +51,7 @@ public final class PromisesTest {
         copies();
         nightsBySheet();
         taken();
+        allFull();
         checks.end();
     }
 
@@ -237,6 +238,7 @@ public final class PromisesTest {
         }
         due("too heavy", lake(45, 0, 10000).needs(0, 0, 0), -1);
         due("just so", lake(44, 0, 10000).needs(0, 0, 0), 98);
+        due("the most wind", lake(44, 1, 10000).needs(1, 0, 0), 99);
         due("dry", lake(1, 0, 4990).needs(0, 0, 0), -1);
         due("add takes two", ruled(lake(5, 10, 14000), "add -2;call 0;worth 0;").needs(0, 0, 0), 40);
         due("add by the wind that is tried", ruled(lake(5, 10, 14990), "add 0-9*(wind<47);call 0;worth 0;").needs(0, 0, 0), 47);
@@ -352,7 +354,14 @@ public final class PromisesTest {
         fault("add 0;add 0;", 6);
         fault("add 0;worth 0;", 6);
         fault("addd 0;", 0);
+        fault("addz 0;", 0);
+        fault("adda 0;", 0);
+        fault("xdd 0;", 0);
+        fault("ad 0;", 0);
         fault("add ad;", 4);
+        fault("add xet;", 4);
+        fault("add wxt;", 4);
+        fault("add wex;", 4);
         fault("add weightwet;", 4);
         fault("add Wet;", 4);
         fault("add we\tt;", 4);
@@ -587,6 +596,9 @@ public final class PromisesTest {
         due("by 9", x.groups(9), 6);
         due("by 10, and so on", x.groups(10), 3);
         due("by 60", x.groups(60), 2);
+        due("one track", withTracks(1).groups(0), 1);
+        due("24 in a row", withTracks(24).groups(1), 1);
+        due("24 apart", withTracks(24).groups(0), 24);
         due("by 99", x.groups(99), 2);
         for (int bad : new int[] {-1, 100, MIN, MAX}) {
             due("off", x.groups(bad), -2);
@@ -667,6 +679,14 @@ public final class PromisesTest {
         due("no pegs", x.holds(0, 63), 0);
         due("x less 2, y less 3", x.peg(29 * 64 + 30), 1);
         due("only two sides", x.holds(0, 63), 0);
+        x.image();
+        due("x more 1, y alike", x.peg(32 * 64 + 33), 2);
+        due("y alike is not more", x.holds(0, 63), 0);
+        x.back();
+        x.peg(33 * 64 + 32);
+        due("x alike is not more", x.holds(0, 63), 0);
+        x.back();
+        alikeIsNotLess();
         due("x more 4, y alike", x.peg(32 * 64 + 36), 2);
         due("three sides", x.holds(0, 63), 0);
         due("x alike, y more 5", x.peg(37 * 64 + 32), 3);
@@ -679,6 +699,19 @@ public final class PromisesTest {
         }
         due("full", x.peg(0), -4);
         due("bad ahead of full", x.peg(-1), -2);
+    }
+
+    private static void alikeIsNotLess() {
+        WalkingStones x = lake(5, 10, 10000);
+        x.peg(33 * 64 + 33);
+        x.peg(31 * 64 + 32);
+        due("x alike is not less", x.holds(0, 63), 0);
+        x.peg(33 * 64 + 31);
+        due("x less", x.holds(0, 63), 1);
+        WalkingStones y = lake(5, 10, 10000);
+        y.peg(33 * 64 + 33);
+        y.peg(32 * 64 + 31);
+        due("y alike is not less", y.holds(0, 63), 0);
     }
 
     private static void bars() {
@@ -704,11 +737,29 @@ public final class PromisesTest {
         x.night(10303);
         x.night(10303);
         due("where they lie then counts", x.bars(0, 63), 0);
+        barsOnAllSides();
         for (int bad : new int[] {-1, 2, MIN, MAX}) {
             due("how", x.bars(bad, 1), -2);
         }
         for (int bad : new int[] {-1, 64, MIN, MAX}) {
             due("far", x.bars(0, bad), -2);
+        }
+    }
+
+    /** A stone in the midst of a ring goes two squares onto it, and three beyond it, by each way. */
+    private static void barsOnAllSides() {
+        for (int way = 0; way < 4; way++) {
+            WalkingStones x = new WalkingStones();
+            x.how(0, 0);
+            x.stone(10, 20 * 64 + 40);
+            x.peg(18 * 64 + 38);
+            x.peg(22 * 64 + 42);
+            x.peg(19 * 64 + 39);
+            x.night(10400 + way);
+            due("onto it by way " + way, x.bars(0, 2), 0);
+            x.night(10300 + way);
+            due("beyond it by way " + way, x.bars(0, 2), 1);
+            due("not held", x.bars(0, 1), 0);
         }
     }
 
@@ -739,6 +790,8 @@ public final class PromisesTest {
         for (int bad : new int[] {-1, 6, MIN, MAX}) {
             due("what", x.seldom(0, bad), WalkingStones.NO);
         }
+        due("the first stone on the first night", lake(5, 0, 10500).seldom(0, 0), 1);
+        due("no row", lake(5, 0, 10500).seldom(0, 1), 0);
         due("no stones, none", noStones().seldom(0, 0), 0);
         due("no stones, a row", noStones().seldom(0, 1), 1);
         due("no stones, 0", noStones().seldom(0, 2), 0);
@@ -785,6 +838,7 @@ public final class PromisesTest {
         x.night(300);
         due("right only", x.when(0, 0), 1);
         due("right and down", x.when(0, 1), 3);
+        due("one square is enough", oneSquare().when(0, 0), 1);
         due("slope is barred by the other one", x.when(1, 0), 0);
         due("slope, whatever the way", x.when(1, 1), 31);
         for (int i = 6; i < 60; i++) {
@@ -796,6 +850,14 @@ public final class PromisesTest {
             due("stone", x.when(0, bad), WalkingStones.NO);
         }
         due("nothing changed", x.stoneTold(0, 1), 0);
+    }
+
+    private static WalkingStones oneSquare() {
+        WalkingStones x = new WalkingStones();
+        x.how(0, 0);
+        x.stone(1, 62);
+        x.night(10990);
+        return x;
     }
 
     private static WalkingStones withTracks(int n) {
@@ -857,6 +919,9 @@ public final class PromisesTest {
             x.night(weather);
         }
         // Costs 3 3 3 4 5 3; worths 0 1 20 30 30 20.
+        for (int what = 0; what < 3; what++) {
+            due("nothing", x.look(0, what), 0);
+        }
         due("too little", x.look(2, 0), 0);
         due("one", x.look(3, 0), 4);
         due("one", x.look(3, 1), 20);
@@ -1063,6 +1128,22 @@ public final class PromisesTest {
         due("anew", x.sheet(0, 2, 40), 1);
         due("all 0", x.nights(0, 2, 0, 1), 1);
         due("the night is 0", dryNight(x, 1), 0);
+        sheetsSideBySide();
+    }
+
+    /** A sheet that is made anew leaves the others as they are. */
+    private static void sheetsSideBySide() {
+        WalkingStones x = new WalkingStones();
+        for (int sheet = 0; sheet < 4; sheet++) {
+            due("40", x.sheet(sheet, 2, 40), 1);
+            x.cell(sheet, 0, 10000);
+            x.cell(sheet, 39, 10000);
+        }
+        x.sheet(1, 2, 40);
+        x.nights(0, 2, 39, 1);
+        x.nights(2, 2, 0, 1);
+        due("the last of the one", dryNight(x, 0), 1);
+        due("the first of the other", dryNight(x, 1), 1);
     }
 
     /** Whether a gust may go on a night: 0, if it is dry. */
@@ -1187,5 +1268,71 @@ public final class PromisesTest {
             due("how", x.taken(bad, 0), -11);
             due("k ahead of how", x.taken(bad, bad), -2);
         }
+    }
+
+    /** As much of everything as there can be, so that every row is used to its end. */
+    private static void allFull() {
+        checks.at("all full");
+        WalkingStones x = new WalkingStones();
+        for (int i = 0; i < 10; i++) {
+            due("stone", x.stone(1 + i, 64 * 5 * i + 32), i);
+        }
+        for (int i = 0; i < 60; i++) {
+            due("night", x.night(16990 + (i & 1) * 2), i);
+        }
+        for (int i = 0; i < 8; i++) {
+            due("how", x.how(3, 9), i);
+        }
+        for (int i = 0; i < 24; i++) {
+            due("track", x.track(9, 540, 59), i);
+        }
+        for (int i = 1; i <= 20; i++) {
+            due("cross", x.cross(i, i - 1), i);
+        }
+        for (int i = 1; i <= 8; i++) {
+            due("peg", x.peg(i % 2 == 0 ? 0 : 4095), i);
+        }
+        due("went", x.run(0, 59, 9, 0), 540);
+        due("at", x.run(7, 59, 9, 1), 64 * 45 + 32);
+        due("turns", x.run(7, 59, 9, 2), 59);
+        due("fits", x.fits(23, 7), 9);
+        due("odds, above", x.odds(7, 65535, 0), 1);
+        due("odds, below", x.odds(7, 65535, 1), 8);
+        due("groups", x.groups(0), 1);
+        due("order", x.order(23), 23);
+        due("holds", x.holds(9, 63), 1);
+        due("bars", x.bars(7, 63), 0);
+        due("seldom", x.seldom(7, 0), 60);
+        due("row", x.seldom(7, 1), 0);
+        due("called", x.seldom(7, 4), 60);
+        due("called and pushed", x.seldom(7, 5), 60);
+        due("when", x.when(7, 9), (1L << 60) - 1);
+        due("look", x.look(99, 0), 2047);
+        due("foretold", x.foretold(7, 59), 1023);
+        due("image", x.image(), 10);
+        due("lay", x.lay(7, 59), 5400);
+        due("lay a night", x.lay(7, 5959), 90);
+        due("moved", x.stoneTold(9, 1), 64 * 45 + 23);
+        due("back", x.back(), 10);
+        due("there again", x.stoneTold(9, 1), 64 * 45 + 32);
+        fullTapes(x);
+    }
+
+    /** 160 bytes as so many tokens as can be, as one word, as one number, as blanks. */
+    private static void fullTapes(WalkingStones x) {
+        String blanks = " ".repeat(160);
+        String sum = "add 0" + "+1".repeat(69) + ";call 0;worth 0; ";
+        due("160 bytes", sum.length(), 160);
+        due("a long sum", Checks.read(x, sum), 1);
+        x.force(1);
+        due("9 more at most", x.told(0, 0, 0, 2), 18);
+        due("nothing is worth a look now", x.look(99, 0), 0);
+        due("semicolons", Checks.read(x, ";".repeat(160)), -100);
+        due("a word", Checks.read(x, "add " + "w".repeat(156)), -104);
+        due("a number", Checks.read(x, "add " + "1".repeat(156)), -104);
+        due("blanks", Checks.read(x, blanks), -260);
+        due("ends too early", Checks.read(x, "add 0" + "+1".repeat(77) + "+"), -260);
+        due("a word at the end", Checks.read(x, "add 0;call 0;worth" + " ".repeat(137) + "night"), -260);
+        due("blank, then", Checks.read(x, " ".repeat(139) + "add 0;call 0;worth 0;"), 2);
     }
 }

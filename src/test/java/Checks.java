@@ -1,14 +1,46 @@
+import java.io.IOException;
 import java.nio.charset.StandardCharsets;
+import java.nio.file.Files;
+import java.nio.file.Path;
+import java.util.function.IntToLongFunction;
 
-/** What the tests share: counting wrong answers, and feeding texts. */
+/** What the tests share: counting wrong answers, ranges of numbers, and feeding texts. */
 final class Checks {
+    private static final Path DOCUMENT = Path.of("../shared/DOC.md");
     private int done;
     private int wrong;
     private String place = "";
+    private String document;
 
     /** Names what the next checks are about. */
     void at(String name) {
         place = name;
+    }
+
+    /** Names the document's words that the next checks are about; they must stand there. */
+    void says(String words) {
+        place = "'" + words + "'";
+        done++;
+        if (!document().contains(oneLine(words))) {
+            wrong++;
+            System.out.println(place + ": the document doesn't say so");
+        }
+    }
+
+    private String document() {
+        if (document == null) {
+            try {
+                document = oneLine(Files.readString(DOCUMENT));
+            } catch (IOException e) {
+                document = "";
+                System.out.println("no document at " + DOCUMENT);
+            }
+        }
+        return document;
+    }
+
+    private static String oneLine(String words) {
+        return words.replaceAll("\\s+", " ");
     }
 
     void due(String call, long got, long want) {
@@ -24,6 +56,34 @@ final class Checks {
         if (!got.equals(want)) {
             wrong++;
             System.out.println(place + ": " + call + " answered " + got + ", due is " + want);
+        }
+    }
+
+    /**
+     * A number of a call that goes from least to most: both are taken, and all others are refused that lie next to them, or
+     * off by a power of two (as if a number were cut to fewer bits), or at the ends of an int.
+     */
+    void range(String name, int least, int most, long refusal, IntToLongFunction call) {
+        taken(name, least, refusal, call);
+        taken(name, most, refusal, call);
+        refused(name, least, most, least - 1, refusal, call);
+        refused(name, least, most, most + 1, refusal, call);
+        refused(name, least, most, Integer.MIN_VALUE, refusal, call);
+        refused(name, least, most, Integer.MAX_VALUE, refusal, call);
+        for (int k = 1; k < 32; k++) {
+            refused(name, least, most, least + (1 << k), refusal, call);
+            refused(name, least, most, most + (1 << k), refusal, call);
+            refused(name, least, most, least - (1 << k), refusal, call);
+        }
+    }
+
+    private void taken(String name, int number, long refusal, IntToLongFunction call) {
+        due(name + " " + number + " is taken", call.applyAsLong(number) != refusal, true);
+    }
+
+    private void refused(String name, int least, int most, int number, long refusal, IntToLongFunction call) {
+        if (number < least || number > most) {
+            due(name + " " + number, call.applyAsLong(number), refusal);
         }
     }
 

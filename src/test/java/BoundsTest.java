@@ -11,6 +11,7 @@ public final class BoundsTest {
         stones();
         weathers();
         everyWeatherIsKept();
+        wettest();
         hows();
         tellings();
         texts();
@@ -115,6 +116,25 @@ public final class BoundsTest {
                 due("way of night " + night, x.run(1, 101 * night, 0, 1), 64 * 32 + 32 + went * strides[wind % 4]);
             }
         }
+    }
+
+    private static void wettest() {
+        checks.says("WET, ICE (0 .. 9 each)");
+        for (int wet = 1; wet <= 9; wet++) {
+            WalkingStones x = Lakes.withStones(1);
+            x.how(5, 20);
+            Checks.read(x, "add wet-1;call 0;worth 0;");
+            x.force(1);
+            int[] rests = {0, 3, 9993, 9990, 9991, 9992};
+            for (int night = 0; night < rests.length; night++) {
+                x.night(10000 * wet + rests[night]);
+                due("wet of " + (10000 * wet + rests[night]), x.told(0, 0, night, 2), wet);
+            }
+        }
+        WalkingStones y = Lakes.withStones(1);
+        y.how(0, 20);
+        y.night(9993);
+        due("9993 is dry", y.told(0, 0, 0, 0), 0);
     }
 
     private static void hows() {

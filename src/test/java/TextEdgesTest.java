@@ -25,6 +25,9 @@ public final class TextEdgesTest {
         addBounds();
         callBounds();
         worthBounds();
+        lightest();
+        bindings();
+        tapesLeaveNothing();
         firstRule();
         checks.end();
     }
@@ -477,8 +480,62 @@ public final class TextEdgesTest {
         x.night(10000);
         Checks.read(x, "add 0;call 0;worth weight+number;");
         x.force(1);
+        due("a how that was asked of", x.told(0, 0, 0, 2), 0);
+        x.night(10990);
+        x.stone(1, 1);
+        due("pushed by wind less twice weight, add 0", x.told(0, 1, 1, 2), 9);
         due("weight and number are 0, whatever lies there", x.look(99, 1), 0);
         due("and none is looked at", x.look(99, 0), 0);
+    }
+
+    private static void lightest() {
+        checks.says("(weight: that of the lightest STONE, 0 without any)");
+        int[][] weights = {{}, {7}, {7, 9}, {9, 7}, {9, 7, 8}, {7, 8, 9}, {9, 8, 7}, {99, 98, 97, 96, 95, 94, 93, 92, 91, 7},
+            {7, 7}, {99}, {1, 99}};
+        for (int[] row : weights) {
+            WalkingStones x = new WalkingStones();
+            int least = row.length == 0 ? 0 : 99;
+            for (int i = 0; i < row.length; i++) {
+                x.stone(row[i], i);
+                least = Math.min(least, row[i]);
+            }
+            x.how(0, 0);
+            x.night(0);
+            Checks.read(x, "add 0;call weight=" + least + ";worth 0;");
+            x.force(1);
+            due("lightest " + least, x.seldom(0, 4), 1);
+        }
+    }
+
+    private static void bindings() {
+        checks.says("E: AND { or AND }. AND: NOT { and NOT }.");
+        due("1 or (0 and 0)", worthOf("1 or 0 and 0"), 1);
+        due("(0 and 0) or 1", worthOf("0 and 0 or 1"), 1);
+        due("0 and (0 or 1)", worthOf("0 and (0 or 1)"), 0);
+        checks.says("SUM: TERM { + or - TERM }. TERM: ONE { * ONE }.");
+        due("1+2*3", worthOf("1+2*3"), 7);
+        due("2*3+1", worthOf("2*3+1"), 7);
+        due("9-3-2", worthOf("9-3-2"), 4);
+        due("9-(3-2)", worthOf("9-(3-2)"), 8);
+        due("9-3+2", worthOf("9-3+2"), 8);
+        due("-3+9", worthOf("-3+9"), 6);
+        due("-3*-3", worthOf("-3*-3"), 9);
+        due("2*3*4", worthOf("2*3*4"), 24);
+    }
+
+    private static void tapesLeaveNothing() {
+        checks.says("THE TAPE, which is empty then");
+        WalkingStones x = new WalkingStones();
+        due("a long word", Checks.read(x, "add 0;callcall;worth 123456789;" + "z".repeat(129)), -106);
+        due("its rest is not read", Checks.read(x, "add 0;call"), -110);
+        due("a long number", Checks.read(x, "1".repeat(160)), -100);
+        due("its rest is not read", Checks.read(x, "add 123"), -107);
+        due("160 signs", Checks.read(x, ";".repeat(160)), -100);
+        due("160 signs, the first of them stand", Checks.read(x, "add " + "(".repeat(156)), -109);
+        due("a text", Checks.read(x, "add 9;call 9;worth 9;"), 1);
+        due("a shorter one ends early", Checks.read(x, "add 9;call 9;worth 9"), -120);
+        due("an empty one", x.text(), -100);
+        due("one text came", x.count(6), 2);
     }
 
     private static void firstRule() {

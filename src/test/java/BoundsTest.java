@@ -246,14 +246,11 @@ public final class BoundsTest {
             checks.range("together, b", 0, last - 1, BAD, v -> v == last ? BAD : Lakes.of(which).together(last, v, 0));
             checks.range("together, the last b", 1, last, BAD, v -> v == 0 ? BAD : Lakes.of(which).together(0, v, 0));
             checks.range("together, off", 0, 99, BAD, v -> Lakes.of(which).together(0, 1, v));
-            checks.range("groups, off", 0, 99, BAD, v -> Lakes.of(which).groups(v));
-            checks.range("fits, track", 0, last, BAD, v -> Lakes.of(which).fits(v, 0));
-            checks.range("fits, how", 0, Lakes.of(which).count(2) - 1, BAD, v -> Lakes.of(which).fits(0, v));
-            checks.range("cross, order: place", 0, last, BAD, v -> Lakes.of(which).order(v));
             for (int track = 0; track <= last; track++) {
                 due("together, one twice", Lakes.of(which).together(track, track, 99), BAD);
             }
         }
+        groupsFitsOrder();
         checks.says("TOGETHER (1, 0). BAD (alike, too).");
         due("alike, and none such", Lakes.some().together(3, 3, 0), BAD);
         checks.says("CROSS: how many there are. BAD (alike, too); FULL.");
@@ -263,6 +260,19 @@ public final class BoundsTest {
         checks.range("under the last", 0, 1, BAD, v -> v == 2 ? BAD : Lakes.some().cross(2, v));
         for (int track = -1; track <= 3; track++) {
             due("alike " + track, Lakes.some().cross(track, track), BAD);
+        }
+    }
+
+    private static void groupsFitsOrder() {
+        for (int which : LAKES) {
+            int last = Lakes.of(which).count(3) - 1;
+            checks.says("GROUPS. BAD.");
+            checks.range("off", 0, 99, BAD, v -> Lakes.of(which).groups(v));
+            checks.says("What a TRACK FITS a HOW. BAD.");
+            checks.range("track", 0, last, BAD, v -> Lakes.of(which).fits(v, 0));
+            checks.range("how", 0, Lakes.of(which).count(2) - 1, BAD, v -> Lakes.of(which).fits(0, v));
+            checks.says("ORDER. BAD: no such place; NONE.");
+            checks.range("place", 0, last, BAD, v -> Lakes.of(which).order(v));
         }
     }
 
@@ -290,10 +300,12 @@ public final class BoundsTest {
     private static void pegs() {
         checks.says("PEGS (8 at most): places.");
         checks.range("place", 0, 4095, BAD, v -> new WalkingStones().peg(v));
-        checks.says("PEGS hold a STONE by a number (0 .. 63)");
         for (int which : LAKES) {
-            checks.range("holds, stone", 0, Lakes.of(which).count(0) - 1, BAD, v -> Lakes.of(which).holds(v, 1));
+            checks.says("PEGS hold a STONE by a number (0 .. 63)");
             checks.range("holds, far", 0, 63, BAD, v -> Lakes.of(which).holds(0, v));
+            checks.says("Whether PEGS hold a STONE (1, 0). BAD.");
+            checks.range("holds, stone", 0, Lakes.of(which).count(0) - 1, BAD, v -> Lakes.of(which).holds(v, 1));
+            checks.says("BARS (of a RUN over all NIGHTS). BAD.");
             checks.range("bars, how", 0, Lakes.of(which).count(2) - 1, BAD, v -> Lakes.of(which).bars(v, 1));
             checks.range("bars, far", 0, 63, BAD, v -> Lakes.of(which).bars(0, v));
         }

@@ -99,6 +99,15 @@ public final class TermsEdgesTest {
     }
 
     private static void pushesBegin() {
+        checks.says("PUSHES a STONE on a NIGHT (squares): 0, if it MAY not");
+        for (int kind = 0; kind <= 5; kind++) {
+            WalkingStones x = lake(1, kind, 20, 9990);
+            rule(x, "add 9;call 0;worth 0;");
+            due("dry, kind " + kind, x.told(0, 0, 0, 2), 0);
+        }
+        checks.says("Quotients are cut toward 0.");
+        due("9 less than its drag", lake(5, 0, 0, 10010).told(0, 0, 0, 2), 0);
+        due("19 more than its drag", lake(5, 0, 0, 10290).told(0, 0, 0, 2), 1);
         checks.says("HOW: (WIND less DRAG) by 10 (cut), 0 at least");
         int[] ices = {0, 0, 4, 6, 4};
         int[] weights = {1, 2, 5, 20, 44, 45, 99};

@@ -136,6 +136,15 @@ public final class TextEdgesTest {
             int want = joins || more ? 1 : b == 32 || b == 10 ? -106 : b == ';' ? -106 : -105;
             due("1 and byte " + b + " and 2", read("add 1" + (char) b + "2;call 0;worth 0;"), want);
         }
+        checks.says("also of a byte that begins none");
+        for (int b = 0; b < 256; b++) {
+            boolean begins = "();+-*<=".indexOf(b) >= 0 || b >= 'a' && b <= 'z' || b >= '0' && b <= '9' || b == 32 || b == 10;
+            if (!begins) {
+                fault("add 1+" + (char) b + ";", 6);
+                fault(Lakes.PLAIN + (char) b, 21);
+                fault((char) b + Lakes.PLAIN, 0);
+            }
+        }
         fault("add 1>2;", 5);
         fault("add 1!2;", 5);
         fault("add 1<=2;", 6);
@@ -175,6 +184,7 @@ public final class TextEdgesTest {
             fault(key + "s 0;", 0);
         }
         fault("add w" + "e".repeat(150) + "t;", 4);
+        checks.says("TOKENS, each as long as can be");
         good("add 1or 2and 3;call not 4;worth 5;");
         fault("add 1orwet;", 5);
         fault("add notwet;", 4);

@@ -15,6 +15,8 @@ public final class TextEdgesTest {
         words();
         keysAreNoNames();
         endsTooEarly();
+        lastByteOfAFullTape();
+        mostThatWait();
         firstOfManyFaults();
         parts();
         comparisons();
@@ -223,6 +225,37 @@ public final class TextEdgesTest {
             all.append(token);
         }
         good(all.toString());
+    }
+
+    private static void lastByteOfAFullTape() {
+        checks.says("the place of the first byte of the first TOKEN that can't stand there");
+        for (int size = 0; size < 160; size++) {
+            fault(" ".repeat(size) + "#", size);
+            fault("\n".repeat(size) + ";", size);
+        }
+        fault("(".repeat(160), 0);
+        fault(Lakes.PLAIN + " ".repeat(138) + "#", 159);
+        fault("add" + " ".repeat(156) + ";", 159);
+        fault(" ".repeat(160), 160);
+        good(Lakes.PLAIN + " ".repeat(139));
+        good(" ".repeat(139) + Lakes.PLAIN);
+    }
+
+    /** Five values wait at each of six levels, and one more comes: no text can have more of them at once. */
+    private static void mostThatWait() {
+        checks.says("while 5 of these are open");
+        for (int last = 0; last <= 3; last++) {
+            String text = "0or 1and 0<0+1*" + last;
+            for (int open = 0; open < 5; open++) {
+                text = "0or 1and 0<0+1*(" + text + ")";
+            }
+            due(text, worthOf(text), last > 0 ? 1 : 0);
+            String sums = "0or 7and 3<2+1*" + last;
+            for (int open = 0; open < 5; open++) {
+                sums = "0or 7and 3<3+2*(" + sums + ")";
+            }
+            due(sums, worthOf(sums), last > 1 ? 1 : 0);
+        }
     }
 
     private static void firstOfManyFaults() {
